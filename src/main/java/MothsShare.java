@@ -27,8 +27,8 @@ public final class MothsShare {
     private final Share told = new Share();
     /** Where a deed is tried, so that a refused one leaves what was told alone. */
     private final Share trial = new Share();
+    /** Null where none was kept: what keeps none needs no room. */
     private final Share[] images = new Share[IMAGES];
-    private final boolean[] kept = new boolean[IMAGES];
     private final Plan plan = new Plan();
     private final Deed deed = new Deed();
     private final Fraction fraction = new Fraction();
@@ -37,9 +37,6 @@ public final class MothsShare {
     private int refusedFull;
 
     public MothsShare() {
-        for (int i = 0; i < IMAGES; i++) {
-            images[i] = new Share();
-        }
     }
 
     // ---- bolts, moths, a bargain
@@ -267,8 +264,12 @@ public final class MothsShare {
         if (i < 0 || i >= IMAGES) {
             return noted(BAD);
         }
-        images[i].copyFrom(told);
-        kept[i] = true;
+        Share image = images[i];
+        if (image == null) {
+            image = new Share();
+            images[i] = image;
+        }
+        image.copyFrom(told);
         return 1;
     }
 
@@ -276,10 +277,11 @@ public final class MothsShare {
         if (i < 0 || i >= IMAGES) {
             return noted(BAD);
         }
-        if (!kept[i]) {
+        Share image = images[i];
+        if (image == null) {
             return noted(NO);
         }
-        told.copyFrom(images[i]);
+        told.copyFrom(image);
         return 1;
     }
 
@@ -310,7 +312,7 @@ public final class MothsShare {
         h = 31 * h + told.moths;
         h = 31 * h + told.groups();
         h = 31 * h + deed.length;
-        h = told.addTo(h);
+        h = told.foldInto(h);
         h = 31 * h + fraction.above;
         return 31 * h + fraction.below;
     }
@@ -725,7 +727,7 @@ public final class MothsShare {
 
         // -- digest
 
-        long addTo(long start) {
+        long foldInto(long start) {
             long h = start;
             for (int b = 0; b < bolts; b++) {
                 h = 31 * h + colours[b];

@@ -56,6 +56,10 @@ public final class DeedTest {
         fault("eachs 3;", 0);
         fault("eac 3;", 0);
         fault("boltmoth 3;", 0);
+        fault("xach 3;", 0);
+        fault("eacx 3;", 0);
+        fault("eachz 3;", 0);
+        fault("each 3;eacha", 7);
         fault("Each 3;", 0);
         fault("eacH 3;", 0);
         fault(";", 0);
@@ -170,6 +174,23 @@ public final class DeedTest {
         due.no(x, "undo()", () -> x.undo());
         due.is("an IMAGE stays", x.from(1), 1);
         due.is("HOLES of it", x.holes(0, 7), 7);
+        for (int time = 0; time < 3; time++) {
+            due.is("read() again", Due.read(x, "bolt 1 0 9; moth 3; taste 3 1; each 4; want 0; mood 8;"), 6);
+            due.is("count(0)", x.count(0), 1);
+            due.is("count(1)", x.count(1), 1);
+            due.is("give(0)", x.give(0), 9);
+        }
+        due.is("read() of nothing", Due.read(x, " "), 0);
+        due.is("digest", x.digest(), digestOfBlank(x));
+    }
+
+    /** The digest of a new object with one blank as its text and x's fraction. */
+    private static long digestOfBlank(MothsShare x) {
+        MothsShare y = new MothsShare();
+        y.type(32, 1);
+        y.oracle(2, 1);
+        due.is("THE FRACTION", x.part(0), y.part(0));
+        return y.digest();
     }
 
     private static void nothingChanges() {

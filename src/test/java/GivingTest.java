@@ -94,6 +94,12 @@ public final class GivingTest {
         due.is("two groups of 2, 1: worth 1; one group: none", y.number(), 3);
         y.put(2, 9);
         due.is("nothing by any", y.number(), 2);
+        MothsShare six = Due.told("mood 3; want 0; bolt0 0 1;bolt0 0 1;bolt0 0 1;bolt0 0 1;bolt0 0 1;bolt0 0 1;");
+        due.is("one GROUP of six", six.number(), 6);
+        six.put(2, 4);
+        due.is("two GROUPS: worth 1; one: none", six.number(), 6);
+        six.put(2, 5);
+        due.is("two GROUPS: none", six.number(), 3);
         MothsShare dark = Due.told("bolt 0 0 1; mood 1;");
         due.is("STATUS of none", dark.number() + dark.status(0) + dark.status(1), -1);
     }
@@ -239,6 +245,10 @@ public final class GivingTest {
         x.taste(2, 1);
         due.is("by the TASTES that are: the SHY one eats bolt 3", x.eaten(2), 3);
         due.is("STATUS", x.status(1), 1);
+        MothsShare first = Due.told("mood 1; moth 0; moth 0; taste 0 3; taste 1 4; bolt1 0 1;bolt0 0 1;bolt0 0 1;");
+        first.give(-1);
+        due.is("bolt 0 first", first.eaten(0), 0);
+        due.is("then bolt 1", first.eaten(1), 1);
         MothsShare none = Due.told("mood 1; bolt 0 0 1;");
         none.give(-1);
         due.is("no MOTHS", none.eaten(-1), 0);

@@ -106,6 +106,10 @@ public final class HolesTest {
         due.is("a COMMON one minds no cedar", x.cedar(7), -1);
         due.is("its 8", x.cedar(8), 0);
         due.is("STATUS of none", x.status(0), 2);
+        MothsShare mixed = Due.told("moth 1; moth 5; taste 0 8; bolt0 0 1;bolt1 1 1;");
+        due.is("the first MOTH's 8 and 5, the other's 2 and 3", mixed.cedar(5), 1);
+        due.is("the first MOTH's alone", mixed.cedar(3), 3);
+        due.is("the other's 3", mixed.cedar(2), -1);
         due.is("no BOLTS", Due.told("moth 3;").cedar(0), 0);
         due.is("no MOTHS", Due.told("bolt 0 0 1;").cedar(0), 0);
     }
