@@ -81,9 +81,14 @@ final class Due {
         return x;
     }
 
+    /** Whether something was asked and nothing was wrong. */
+    boolean holds() {
+        return asked > 0 && wrong == 0;
+    }
+
     void end() {
         System.out.println(asked + " answers, " + wrong + " wrong");
-        if (asked == 0 || wrong != 0) {
+        if (!holds()) {
             System.exit(1);
         }
     }
