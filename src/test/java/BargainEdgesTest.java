@@ -48,6 +48,14 @@ public final class BargainEdgesTest {
             edges.is("STATUS " + s + " is 0 at first", 0, "", x -> x.status(what));
         }
         edges.is("the digest of a new object", digestOfNew(), "", x -> x.digest());
+        edges.test("the 512th call, the last, is answered as the first", due -> {
+            MothsShare x = new MothsShare();
+            for (int call = 1; call <= 510; call++) {
+                x.moth(6);
+            }
+            due.is("call 511, bolt(0, 0, 0)", x.bolt(0, 0, 0), 0);
+            due.is("call 512, status(0)", x.status(0), 510);
+        });
         edges.test("what one object is told another is not", due -> {
             MothsShare first = new MothsShare();
             Edges.tell(first, "bolt 0 0 0; moth 0; taste 0 0; each 2; want 0; mood 1; give 0; image 0; oracle 3 1");

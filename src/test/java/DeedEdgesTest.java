@@ -129,6 +129,9 @@ public final class DeedEdgesTest {
         fault("a line's end", 7, "each 3;\n");
         fault("a great letter ahead of a word", 0, "Each 3;");
         fault("a great letter in a word", 0, "eAch 3;");
+        fault("a great A behind a word", 4, "eachA 3;");
+        fault("a great Z behind a word", 4, "eachZ 3;");
+        fault("a great A behind a number", 6, "each 3A;");
         fault("a less sign ahead of a number", 5, "each -3;");
         fault("a great Z, the letters' last", 7, "each 3;Z");
     }
@@ -144,10 +147,15 @@ public final class DeedEdgesTest {
             fault(word + " and a letter more is none", 0, word + "s" + deeds[i].substring(word.length()));
             fault(word + " with another last letter is none", 0,
                 word.substring(0, word.length() - 1) + "z" + deeds[i].substring(word.length()));
+            fault(word + " with another first letter is none", 0, "z" + deeds[i].substring(1));
+            fault(word + " with another letter within is none", 0, word.charAt(0) + "z" + deeds[i].substring(2));
+            fault(word + " and a, the first letter, is none", 0, word + "a" + deeds[i].substring(word.length()));
+            fault(word + " and z, the last letter, is none", 0, word + "z" + deeds[i].substring(word.length()));
         }
         tells("the word holes", 2, "bolt 1 2 3;holes 0 9;", "bolt 1 2 3; holes 0 9");
         fault("hole is none", 11, "bolt 1 2 3;hole 0 9;");
         fault("holess is none", 11, "bolt 1 2 3;holess 0 9;");
+        fault("zoles is none", 11, "bolt 1 2 3;zoles 0 9;");
         fault("one letter is no word", 0, "e");
         fault("the letter a is no word", 0, "a 3;");
         fault("the letter z is no word", 0, "z 3;");

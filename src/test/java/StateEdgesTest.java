@@ -91,6 +91,7 @@ public final class StateEdgesTest {
         keeps("MOOD", "mood 9", "mood 1");
         keeps("HOLES", "bolt 1 1 1; bolt 2 2 2; holes 0 9", "holes 0 8; holes 1 7");
         keeps("gifts", GIVEN, "give 4; undo; undo");
+        keeps("gifts, though others were given since", GIVEN, "undo; undo; give 0; give 3");
         keeps("that nothing is given", "bolt 1 1 1", "give 0");
         keeps("that it is BROKEN", "mood 1; moth 0; bolt 1 1 1; bolt 1 1 1; give 0", "mood 9");
     }
